@@ -586,6 +586,16 @@ public final class GatesAndFixesTest {
         Check.dueState("after it", () -> x.holds(31));
     }
 
+    @Promise(number = 20, says = "if several apply, the one that it lists first is thrown")
+    static void holdsIndexComesFirst() {
+        CrashBuckets x = new CrashBuckets();
+        Check.dueIndex("no reports, and so no fix", () -> x.holds(0));
+        Scene.tell(x, 1, 0, 0, 0);
+        Check.dueIndex("report 1, and so no fix", () -> x.holds(1));
+        Check.dueIndex("report -1, and so no fix", () -> x.holds(-1));
+        Check.dueState("only no fix", () -> x.holds(0));
+    }
+
     @Promise(number = 20, says = "A call that throws changes nothing.")
     static void refusedHoldsChangesNothing() {
         CrashBuckets x = Scene.busy();

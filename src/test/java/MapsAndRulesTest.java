@@ -323,6 +323,16 @@ public final class MapsAndRulesTest {
         Check.due("one that others stand for, for one of another chain", 3, x.standFor(2, 0));
     }
 
+    @Promise(number = 4, says = "if several apply, the one that it lists first is thrown")
+    static void standForArgumentComesFirst() {
+        CrashBuckets x = new CrashBuckets();
+        x.standFor(29, 0);
+        Check.dueArgument("other 30 of one that another stands for", () -> x.standFor(0, 30));
+        Check.dueArgument("function 30 for one of a chain", () -> x.standFor(30, 29));
+        Check.dueArgument("function -1 for the end of a chain", () -> x.standFor(-1, 0));
+        Check.dueState("only a ring", () -> x.standFor(0, 29));
+    }
+
     @Promise(number = 4, says = "A call that throws changes nothing.")
     static void refusedStandForChangesNothing() {
         CrashBuckets x = Scene.busy();
