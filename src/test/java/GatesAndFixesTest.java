@@ -170,6 +170,31 @@ public final class GatesAndFixesTest {
         Check.due("version 3", PASS, x.gate(3));
     }
 
+    @Promise(number = 17, says = "always by all that has been told so far")
+    static void gateOfBucketsThatSplitAndJoin() {
+        CrashBuckets x = Scene.splittable();
+        x.setSessions(0, 100);
+        x.setLimit(300);
+        Check.due("three by their first addresses", PASS, x.gate(0));
+        x.addRange(0, 0, 9, 1);
+        Check.due("one by the map", HOLD, x.gate(0));
+        x.addRange(0, 10, 19, 2);
+        Check.due("two by the map", SLOW, x.gate(0));
+        x.setDepth(1);
+        Check.due("one by the depth", HOLD, x.gate(0));
+        x.ignore(1, true);
+        Check.due("two by what is ignored", SLOW, x.gate(0));
+        x.addRange(0, 20, 29, 3);
+        x.standFor(3, 2);
+        Check.due("one by what stands for another", HOLD, x.gate(0));
+        x.standFor(3, 3);
+        Check.due("two by what stands for itself again", SLOW, x.gate(0));
+        x.setSessions(0, 200);
+        Check.due("two with more sessions", PASS, x.gate(0));
+        x.setLimit(100);
+        Check.due("two with a lower limit", HOLD, x.gate(0));
+    }
+
     @Promise(number = 17, says = "Reports are numbered from 0; there are at most 60.")
     static void gateWith60Reports() {
         CrashBuckets x = new CrashBuckets();
@@ -241,6 +266,29 @@ public final class GatesAndFixesTest {
         Check.due("1.33 and 2", 2, x.worst(0));
         x.setSessions(0, 20001);
         Check.due("0.99 and 1.49", 2, x.worst(0));
+    }
+
+    @Promise(number = 18, says = "always by all that has been told so far")
+    static void worstOfBucketsThatSplitAndJoin() {
+        CrashBuckets x = Scene.splittable();
+        x.setSessions(0, 100);
+        Scene.tell(x, 2, 0, 0, 500);
+        Check.due("three of one report each", 3, x.worst(0));
+        x.addRange(0, 0, 9, 1);
+        Check.due("three joined by the map", 0, x.worst(0));
+        x.addRange(0, 10, 19, 2);
+        Check.due("split by the map", 1, x.worst(0));
+        x.setDepth(1);
+        Check.due("joined by the depth", 0, x.worst(0));
+        x.ignore(1, true);
+        Check.due("split by what is ignored", 1, x.worst(0));
+        x.addRange(0, 20, 29, 3);
+        x.standFor(3, 2);
+        Check.due("joined by what stands for another", 0, x.worst(0));
+        x.standFor(3, 3);
+        Check.due("split by what stands for itself again", 1, x.worst(0));
+        Scene.tell(x, 1, 0, 0, 500);
+        Check.due("a report more", 3, x.worst(0));
     }
 
     @Promise(number = 18, says = "NONE if all rates there are 0.")

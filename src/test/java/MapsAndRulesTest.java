@@ -180,6 +180,8 @@ public final class MapsAndRulesTest {
         String before = Scene.stateOf(x);
         Check.dueState("range 31", () -> x.addRange(0, 500, 600, 2));
         Check.dueText("after a full map", before, Scene.stateOf(x));
+        Check.dueState("range 31, which overlaps too", () -> x.addRange(0, 199, 600, 2));
+        Check.dueText("after both", before, Scene.stateOf(x));
         int report = x.report(0, 0, 7002, 7029, 7030, 500);
         Check.due("range 3", 3, x.frame(report, 0));
         Check.due("range 30", 3, x.frame(report, 1));

@@ -144,6 +144,26 @@ public final class RatesTest {
         Check.due("a report a session", 10000, x.rate(59, 3));
     }
 
+    @Promise(number = 15, says = "always by all that has been told so far")
+    static void rateOfBucketsThatSplitAndJoin() {
+        CrashBuckets x = Scene.splittable();
+        x.setSessions(0, 100);
+        Check.due("apart by their first addresses", 100, x.rate(1, 0));
+        x.addRange(0, 0, 9, 1);
+        Check.due("one by the map", 300, x.rate(1, 0));
+        x.addRange(0, 10, 19, 2);
+        Check.due("two by the map", 200, x.rate(1, 0));
+        x.setDepth(1);
+        Check.due("one by the depth", 300, x.rate(1, 0));
+        x.ignore(1, true);
+        Check.due("two by what is ignored", 200, x.rate(1, 0));
+        x.addRange(0, 20, 29, 3);
+        x.standFor(3, 2);
+        Check.due("one by what stands for another", 300, x.rate(1, 0));
+        x.standFor(3, 3);
+        Check.due("two by what stands for itself again", 200, x.rate(1, 0));
+    }
+
     @Promise(number = 15, says = "`IndexOutOfBoundsException` if there is no such report")
     static void rateOfNoReport() {
         CrashBuckets x = new CrashBuckets();
@@ -235,6 +255,25 @@ public final class RatesTest {
         x.ignore(7, true);
         Check.due("split", 1, x.users(1, 2));
         Check.due("without sessions as well", 1, x.users(3, 2));
+    }
+
+    @Promise(number = 16, says = "always by all that has been told so far")
+    static void usersOfBucketsThatSplitAndJoin() {
+        CrashBuckets x = Scene.splittable();
+        Check.due("apart by their first addresses", 1, x.users(1, 0));
+        x.addRange(0, 0, 9, 1);
+        Check.due("one by the map", 3, x.users(1, 0));
+        x.addRange(0, 10, 19, 2);
+        Check.due("two by the map", 2, x.users(1, 0));
+        x.setDepth(1);
+        Check.due("one by the depth", 3, x.users(1, 0));
+        x.ignore(1, true);
+        Check.due("two by what is ignored", 2, x.users(1, 0));
+        x.addRange(0, 20, 29, 3);
+        x.standFor(3, 2);
+        Check.due("one by what stands for another", 3, x.users(1, 0));
+        x.standFor(3, 3);
+        Check.due("two by what stands for itself again", 2, x.users(1, 0));
     }
 
     @Promise(number = 16, says = "`IndexOutOfBoundsException` if there is no such report")

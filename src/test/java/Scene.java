@@ -28,6 +28,18 @@ final class Scene {
         return x;
     }
 
+    /**
+     * Three reports of three users in version 0, without a map. Their first addresses are unlike, but all lie in
+     * 0 to 9; the second ones of reports 1 and 2 lie in 10 to 19, that of report 0 in 20 to 29.
+     */
+    static CrashBuckets splittable() {
+        CrashBuckets x = new CrashBuckets();
+        x.report(0, 3, 1, 20, NONE, NONE);
+        x.report(0, 4, 2, 10, NONE, NONE);
+        x.report(0, 5, 3, 19, NONE, NONE);
+        return x;
+    }
+
     /** Something of everything told; the addresses from 500 on are unknown in all versions. */
     static CrashBuckets busy() {
         CrashBuckets x = new CrashBuckets();
